@@ -424,6 +424,9 @@ public final class NailedOrders {
 
     /** Floats by their bits; made with plain arithmetic, as the language has no call that turns one into the other. */
     private static final class Bits {
+        /** With this exponent a float is just its digits, taken as a whole number. */
+        private static final int EXPONENT_OF_DIGITS = 150;
+
         static boolean areNumber(int bits) {
             return areFrom(bits, -1000.0f, 1000.0f);
         }
@@ -441,8 +444,9 @@ public final class NailedOrders {
             return bits >= 0 && areFrom(bits, 0.0f, 100.0f);
         }
 
+        /** The exponents left out are those of no numbers, or of numbers far beyond every range of the document. */
         private static boolean areFrom(int bits, float least, float most) {
-            if (exponent(bits) == 255) {
+            if (exponent(bits) > EXPONENT_OF_DIGITS) {
                 return false;
             }
             float number = toFloat(bits);
@@ -453,7 +457,10 @@ public final class NailedOrders {
             return (bits >>> 23) & 255;
         }
 
-        /** Each step only moves the point of at most 24 digits, so nothing is rounded on the way. */
+        /**
+         * The float of bits that are from some range. Each halving only moves the point of at most 24 digits, so nothing is
+         * rounded on the way.
+         */
         static float toFloat(int bits) {
             int exponent = exponent(bits);
             int digits = bits & 0x7fffff;
@@ -463,10 +470,7 @@ public final class NailedOrders {
                 exponent = 1;
             }
             float number = (float) digits;
-            for (int i = 150; i < exponent; i++) {
-                number = number * 2.0f;
-            }
-            for (int i = exponent; i < 150; i++) {
+            for (int i = exponent; i < EXPONENT_OF_DIGITS; i++) {
                 number = number * 0.5f;
             }
             return bits < 0 ? -number : number;

@@ -9,6 +9,7 @@ public final class HistoryTest {
         undoOfEachAct();
         noActs();
         keepAndRestore();
+        allOfAnOrder();
         check.end();
     }
 
@@ -130,5 +131,38 @@ public final class HistoryTest {
         door.undo();
         check.due("count(2) after undo()", door.count(2), 0);
         check.due("restore(): undo leaves the snapshot", door.restore(), 2);
+    }
+
+    /** The same number is given to quite another order in between. */
+    private static void allOfAnOrder() {
+        check.promise("13 to 15, all of an order comes back");
+        NailedOrders door = Check.door(1, 2);
+        door.nailLink(0, 3, 4, Check.bits(2.5f), Check.bits(7.5f), Check.bits(3.0f));
+        door.setTolerance(Check.bits(0.5f));
+        door.keep();
+        door.undo();
+        door.undo();
+        door.nail(1, 5, Check.bits(1.5f), ONE);
+        door.setTolerance(Check.bits(0.25f));
+        door.restore();
+        check.due("order(0, 0)", door.order(0, 0), 0);
+        check.due("order(0, 1)", door.order(0, 1), 3);
+        check.due("order(0, 2)", door.order(0, 2), 4);
+        check.dueFloat("real(0, 0)", door.real(0, 0), 7.5f);
+        check.dueFloat("real(0, 1)", door.real(0, 1), 2.5f);
+        check.dueFloat("real(0, 2)", door.real(0, 2), 3.0f);
+        check.due("count(10)", door.count(10), Check.bits(0.5f));
+        Check.nail(door, 0, 9, 1.0f);
+        door.setRank(1, 1);
+        Check.nail(door, 1, 9, 1.5f);
+        check.due("word(9, 4), by the tolerance that came back", door.word(9, 4), NailedOrders.NONE);
+        door.undo();
+        door.undo();
+        door.undo();
+        door.undo();
+        check.due("order(0, 0) after undo()", door.order(0, 0), 1);
+        check.due("order(0, 2) after undo()", door.order(0, 2), NailedOrders.NONE);
+        check.dueFloat("value(5)", door.value(5), 1.5f);
+        check.dueFloat("real(0, 1)", door.real(0, 1), 1.0f);
     }
 }

@@ -107,10 +107,15 @@ public final class PersonsTest {
         check.due("word(0, 4) just beneath the difference", near.word(0, 4), 0);
         near.setTolerance(Check.bits(0.5f));
         check.due("word(0, 4) at the difference", near.word(0, 4), NailedOrders.NONE);
+        Check.nail(near, 0, 2, 2.5f);
+        Check.nail(near, 1, 2, 2.0f);
+        check.due("word(2, 4), the lesser over the greater", near.word(2, 4), NailedOrders.NONE);
+        near.setTolerance(Check.bits(Math.nextDown(0.5f)));
+        check.due("word(2, 4) just beneath the difference", near.word(2, 4), 2);
         Check.nail(near, 1, 1, 0.0f);
         Check.nail(near, 0, 1, Float.MIN_VALUE);
         near.setTolerance(0);
-        check.due("word(1, 4) with the least difference", near.word(1, 4), 2);
+        check.due("word(1, 4) with the least difference", near.word(1, 4), 4);
         near.setTolerance(1);
         check.due("word(1, 4) with the least tolerance", near.word(1, 4), NailedOrders.NONE);
     }

@@ -64,6 +64,8 @@ public final class TextsTest {
         fault("ww", 1);
         fault("W1=1.0", 0);
         fault(" w1=1.0", 0);
+        fault("w=1.0", 1);
+        fault("w1=w*1.0", 4);
         fault("w1", 2);
         fault("w01=1.0", 2);
         fault("w00=1.0", 2);
@@ -160,6 +162,14 @@ public final class TextsTest {
         link("w0=w10*100.0+20.6", 0, 10, 1000 / 10.0f, 206 / 10.0f);
         check.due("eight", read("w1=1.0;w1=1.0;w1=1.0;w1=1.0;w1=1.0;w1=1.0;w1=1.0;w1=1.0"), 8);
         check.due("sixty", read("w10=w11*-111.1+-222.2;w11=w12*-333.3+-444.4;w12=w13*5.5+-6.6"), 3);
+
+        NailedOrders twice = Check.door(3);
+        Check.type(twice, "w1=w2*1.0+5.0");
+        twice.readOrders(0, ONE);
+        twice.clearText();
+        Check.type(twice, "w1=w2*1.0");
+        twice.readOrders(0, ONE);
+        check.dueFloat("the number of a link without +", twice.real(1, 0), 0.0f);
 
         NailedOrders door = Check.door(3, 4);
         Check.type(door, "w1=w2*2.0;w2=1.5;w1=w2*1.0+1.0");

@@ -385,6 +385,9 @@ public final class ToldTest {
                 check.due("person(" + person + ", " + what + ")", door.person(person, what), due[person][what]);
             }
         }
+        door.setRank(0, 5);
+        check.due("person(0, 3), with the first order", door.person(0, 3), 2);
+        check.due("person(1, 3), without it", door.person(1, 3), 1);
         check.due("person(0, 5)", door.person(0, 5), NailedOrders.BAD_VALUE);
         check.due("person(0, -1)", door.person(0, -1), NailedOrders.BAD_VALUE);
         check.due("person(3, 5)", door.person(3, 5), NailedOrders.UNKNOWN);
@@ -415,5 +418,15 @@ public final class ToldTest {
         for (int what = 0; what < due.length; what++) {
             check.due("count(" + what + ")", door.count(what), due[what]);
         }
+
+        NailedOrders open = Check.door(1);
+        Check.link(open, 0, 0, 15, 1.0f, 0.0f);
+        check.due("count(6), the first order of the first word", open.count(6), 1);
+        Check.link(open, 0, 15, 14, 1.0f, 0.0f);
+        check.due("count(6), the last word", open.count(6), 2);
+        Check.link(open, 0, 14, 0, 1.0f, 0.0f);
+        check.due("count(8)", open.count(8), 3);
+        check.due("count(6) with a ring", open.count(6), 3);
+        check.due("count(5)", open.count(5), 0);
     }
 }
